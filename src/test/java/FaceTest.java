@@ -1,0 +1,99 @@
+import java.io.IOException;
+import java.lang.reflect.Field;
+import java.lang.reflect.Method;
+import java.lang.reflect.Modifier;
+import java.nio.file.Files;
+import java.nio.file.Path;
+import java.util.Set;
+import java.util.TreeSet;
+import java.util.regex.Matcher;
+import java.util.regex.Pattern;
+
+/** The class has the document's face and no other, and keeps to what a text search can tell. */
+public final class FaceTest {
+    private static final Set<String> METHODS = Set.of(
+            "public boolean VersionedBlock.put(int,long)",
+            "public long VersionedBlock.get(int)",
+            "public int VersionedBlock.begin()",
+            "public int VersionedBlock.transaction()",
+            "public int VersionedBlock.instruction(int,int,long)",
+            "public int VersionedBlock.weave(long)",
+            "public int VersionedBlock.unweave()",
+            "public int VersionedBlock.execute()",
+            "public int VersionedBlock.count()",
+            "public int VersionedBlock.told(int,int)",
+            "public long VersionedBlock.result(int)");
+    private static final Set<String> FIELDS = Set.of(
+            "public static final int VersionedBlock.BAD",
+            "public static final int VersionedBlock.NO",
+            "public static final int VersionedBlock.FULL");
+    private static final Pattern FORBIDDEN = Pattern.compile(
+            "\\b(throw|throws|try|catch|synchronized|assert|package|Exact|Random|Thread|System\\.out)\\b"
+            + "|->|::|\\bnew \\w+\\(\\) *\\{");
+
+    public static void main(String[] args) throws IOException {
+        theClassItself();
+        methods();
+        fields();
+        insideClasses();
+        text(Path.of(args[0], "src", "main", "java", "VersionedBlock.java"));
+        Check.end();
+    }
+
+    private static void theClassItself() {
+        int modifiers = VersionedBlock.class.getModifiers();
+        Check.due("public final", modifiers, Modifier.PUBLIC | Modifier.FINAL);
+        Check.due("constructors", VersionedBlock.class.getDeclaredConstructors().length, 1);
+        Check.due("no package", VersionedBlock.class.getPackageName().isEmpty(), true);
+    }
+
+    private static void methods() {
+        Set<String> open = new TreeSet<>();
+        Set<String> openNames = new TreeSet<>();
+        for (Method method : VersionedBlock.class.getDeclaredMethods()) {
+            if (!Modifier.isPrivate(method.getModifiers())) {
+                open.add(method.toString());
+                openNames.add(method.getName());
+            }
+        }
+        Check.due("the methods are the document's: " + open, open.equals(METHODS), true);
+        for (Method method : VersionedBlock.class.getDeclaredMethods()) {
+            boolean isPrivate = Modifier.isPrivate(method.getModifiers());
+            Check.due("a private namesake: " + method,
+                    isPrivate && openNames.contains(method.getName()), false);
+        }
+    }
+
+    private static void fields() {
+        Set<String> open = new TreeSet<>();
+        for (Field field : VersionedBlock.class.getDeclaredFields()) {
+            int modifiers = field.getModifiers();
+            if (!Modifier.isPrivate(modifiers)) {
+                open.add(field.toString());
+            }
+            Check.due("static and not final: " + field,
+                    Modifier.isStatic(modifiers) && !Modifier.isFinal(modifiers), false);
+        }
+        Check.due("the constants are the document's: " + open, open.equals(FIELDS), true);
+    }
+
+    private static void insideClasses() {
+        for (Class<?> inside : VersionedBlock.class.getDeclaredClasses()) {
+            int modifiers = inside.getModifiers();
+            Check.due("static: " + inside, Modifier.isStatic(modifiers), true);
+            Check.due("open: " + inside, Modifier.isPublic(modifiers) || Modifier.isProtected(modifiers), false);
+        }
+    }
+
+    private static void text(Path file) throws IOException {
+        String code = Files.readString(file).replaceAll("(?s)/\\*.*?\\*/", "").replaceAll("//.*", "");
+        Matcher found = FORBIDDEN.matcher(code);
+        while (found.find()) {
+            Check.due("forbidden: " + found.group(), 1, 0);
+        }
+        Matcher imports = Pattern.compile("import ([^;]*);").matcher(code);
+        while (imports.find()) {
+            Check.due("import " + imports.group(1), imports.group(1).equals("java.util.Arrays"), true);
+        }
+    }
+}
