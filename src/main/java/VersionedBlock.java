@@ -6,9 +6,9 @@ import java.util.Arrays;
  *
  * <p>Each worker does its transaction on a draft of its own and runs ahead of the others. The
  * transactions are settled strictly in their order: only then does a draft reach the places, and
- * only if every number it was loaded from the places still stands there. Otherwise the transaction
- * is done anew, now behind all those before it. So the weave decides how much work is done in vain,
- * never what comes out.
+ * only if every number that was loaded from the places still stands there. Otherwise the
+ * transaction is done anew, now behind all those before it. So the weave decides how much work is
+ * done in vain, never what comes out.
  */
 public final class VersionedBlock {
     public static final int BAD = -1;
@@ -24,11 +24,12 @@ public final class VersionedBlock {
     private static final int MOST_WOVEN = 65536;
 
     /**
-     * Behind the weave, every round of at most 16 turns brings the first unsettled transaction one
-     * step on; it is done at most twice, in at most 303 steps each. So 65536 + 64 * 606 * 16 turns,
-     * below 700,000, are enough for any block.
+     * A transaction is done at most twice, each time in at most 303 steps (taken, 300 instructions,
+     * come to its end, settled); so 606 steps would be enough for one turn behind the weave.
      */
-    private static final int MOST_TURNS = 1000000;
+    private static final int MOST_STEPS = 1000;
+    /** Every 16 turns behind the weave settle one of 64 transactions; so 1024 would be enough. */
+    private static final int MOST_TURNS = 10000;
 
     private static final int HALT = 0;
     private static final int SET = 1;
@@ -119,8 +120,11 @@ public final class VersionedBlock {
         taken = 0;
         settled = 0;
         halted = 0;
+        for (int i = 0; i < woven.length() && settled < size; i++) {
+            goOn(Math.floorMod(woven.numberAt(i), team.length));
+        }
         for (int turn = 0; turn < MOST_TURNS && settled < size; turn++) {
-            goOn(workerOf(turn));
+            goOnAsFarAsItCan(Math.floorMod(turn, team.length));
         }
         return halted;
     }
@@ -156,27 +160,39 @@ public final class VersionedBlock {
         return t >= 0 && t < size && t < MOST_TRANSACTIONS ? transactions[t] : null;
     }
 
-    private int workerOf(int turn) {
-        int length = woven.length();
-        int number = turn < length ? woven.numberAt(turn) : turn - length;
-        return Math.floorMod(number, team.length);
-    }
-
-    private void goOn(int w) {
-        Worker worker = team[w];
-        if (worker == null || worker.isFree()) {
-            takeNext(w);
-        } else if (!worker.isAtEnd()) {
-            worker.doNext(places);
-        } else if (worker.number() == settled) {
-            settle(worker);
+    /**
+     * The document leaves open how far a worker goes on in its turn. Behind the weave this costs
+     * least: no worker is asked again and again while it waits for another.
+     */
+    private void goOnAsFarAsItCan(int w) {
+        int before = settled;
+        boolean goesOn = true;
+        for (int step = 0; step < MOST_STEPS && goesOn && settled == before; step++) {
+            goesOn = goOn(w);
         }
     }
 
-    private void takeNext(int w) {
+    /** One step of a worker; false when it has nothing to do but to wait for others. */
+    private boolean goOn(int w) {
+        Worker worker = team[w];
+        if (worker == null || worker.isFree()) {
+            return takeNext(w);
+        }
+        if (!worker.isAtEnd()) {
+            worker.doNext(places);
+            return true;
+        }
+        if (worker.number() != settled) {
+            return false;
+        }
+        settle(worker);
+        return true;
+    }
+
+    private boolean takeNext(int w) {
         Transaction next = transactionAt(taken);
         if (next == null) {
-            return;
+            return false;
         }
         Worker worker = team[w];
         if (worker == null) {
@@ -185,6 +201,7 @@ public final class VersionedBlock {
         }
         worker.take(next, taken);
         taken++;
+        return true;
     }
 
     private void settle(Worker worker) {
@@ -420,7 +437,10 @@ public final class VersionedBlock {
         }
     }
 
-    /** Numbers for some of the places; a list of these makes it cheap to go over and to clear. */
+    /**
+     * Numbers for some of the places; a list of these makes it cheap to go over and to clear. It
+     * looks at each place itself, without isPlace, so that calls stay at most seven deep.
+     */
     private static final class Draft {
         private final long[] numbers = new long[PLACES];
         private final boolean[] kept = new boolean[PLACES];
@@ -443,15 +463,15 @@ public final class VersionedBlock {
         }
 
         boolean has(int place) {
-            return isPlace(place) && kept[place];
+            return place >= 0 && place < PLACES && kept[place];
         }
 
         long numberIn(int place) {
-            return isPlace(place) ? numbers[place] : 0L;
+            return place >= 0 && place < PLACES ? numbers[place] : 0L;
         }
 
         void keep(int place, long number) {
-            if (!isPlace(place)) {
+            if (place < 0 || place >= PLACES) {
                 return;
             }
             if (!kept[place] && length < PLACES) {

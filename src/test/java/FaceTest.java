@@ -81,7 +81,8 @@ public final class FaceTest {
         for (Class<?> inside : VersionedBlock.class.getDeclaredClasses()) {
             int modifiers = inside.getModifiers();
             Check.due("static: " + inside, Modifier.isStatic(modifiers), true);
-            Check.due("open: " + inside, Modifier.isPublic(modifiers) || Modifier.isProtected(modifiers), false);
+            Check.due("open: " + inside,
+                    Modifier.isPublic(modifiers) || Modifier.isProtected(modifiers), false);
         }
     }
 
