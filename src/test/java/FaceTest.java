@@ -32,11 +32,13 @@ public final class FaceTest {
             + "|->|::|\\bnew \\w+\\(\\) *\\{");
 
     public static void main(String[] args) throws IOException {
-        theClassItself();
-        methods();
-        fields();
-        insideClasses();
-        text(Path.of(args[0], "src", "main", "java", "VersionedBlock.java"));
+        Path file = Path.of(args[0], "src", "main", "java", "VersionedBlock.java");
+        String text = Files.readString(file);
+        Check.sentence("public final class VersionedBlock", FaceTest::theClassItself);
+        Check.sentence("its methods, and no others", FaceTest::methods);
+        Check.sentence("its constants, and no others", FaceTest::fields);
+        Check.sentence("classes inside are static", FaceTest::insideClasses);
+        Check.sentence("what a text search can tell of LANGUAGE.md", () -> keepsTo(text));
         Check.end();
     }
 
@@ -86,8 +88,9 @@ public final class FaceTest {
         }
     }
 
-    private static void text(Path file) throws IOException {
-        String code = Files.readString(file).replaceAll("(?s)/\\*.*?\\*/", "").replaceAll("//.*", "");
+    private static void keepsTo(String text) {
+        String code = text.replaceAll("(?s)/\\*.*?\\*/", "").replaceAll("//.*", "");
+        Check.due("one class of the document", code.contains("public final class VersionedBlock"), true);
         Matcher found = FORBIDDEN.matcher(code);
         while (found.find()) {
             Check.due("forbidden: " + found.group(), 1, 0);

@@ -27,10 +27,15 @@ public final class WovenTest {
     }
 
     public static void main(String[] args) {
+        Check.sentence("whatever is woven, all comes out as if they were done one after the other",
+                WovenTest::runAll);
+        Check.end();
+    }
+
+    private static void runAll() {
         for (int seed = 0; seed < RUNS && Check.allRight(); seed++) {
             new WovenTest(seed).run();
         }
-        Check.end();
     }
 
     private void run() {
