@@ -8,6 +8,7 @@ public final class ExecuteTest {
         Check.sentence("one that is too long stores nothing", ExecuteTest::tooLongStoresNothing);
         Check.sentence("all transactions in their order", ExecuteTest::inTheirOrder);
         Check.sentence("loading what the places hold behind those before it", ExecuteTest::behindThoseBefore);
+        Check.sentence("loading all 64 bits of what they hold", ExecuteTest::all64BitsBehindThoseBefore);
         Check.sentence("of those before it alone", ExecuteTest::nothingOfThoseBehind);
         Check.sentence("whatever was loaded too early", ExecuteTest::seenTooEarly);
         Check.sentence("execute: The block is done", ExecuteTest::isDoneEachTime);
@@ -127,6 +128,20 @@ public final class ExecuteTest {
                 Programs.dueTold("a chain", x, t, 1, 7, 1, 1, due);
             }
             Check.due("get(0)", x.get(0), due);
+        });
+    }
+
+    /** What was loaded too early differs in its highest bits alone. */
+    private static void all64BitsBehindThoseBefore() {
+        Weaves.inEach(x -> {
+            for (int t = 0; t < 8; t++) {
+                Programs.writeAdding(x, 5, 1L << 61);
+            }
+            Check.due("execute()", x.execute(), 8);
+            for (int t = 0; t < 8; t++) {
+                Check.due("result(" + t + ")", x.result(t), (t + 1) * (1L << 61));
+            }
+            Check.due("get(5)", x.get(5), 0);
         });
     }
 

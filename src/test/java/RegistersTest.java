@@ -52,13 +52,15 @@ public final class RegistersTest {
         }
     }
 
+    /** Stores what register r holds when it begins, and leaves another number in it. */
     private static void zeroWhenDoneAgain() {
         for (int r = 0; r < 8; r++) {
             VersionedBlock x = new VersionedBlock(1);
-            Programs.write(x, Programs.ADD, 0, r, Programs.SET, r, 5);
+            Programs.write(x, Programs.SET, r + 1, 9, Programs.STORE, r, r + 1, Programs.SET, r, 5);
             for (int n = 0; n < 3; n++) {
-                x.execute();
-                Check.due("result(0), register " + r, x.result(0), r == 0 ? 5 : 0);
+                x.put(9, 77);
+                Check.due("execute()", x.execute(), 1);
+                Check.due("get(9), from register " + r, x.get(9), 0);
             }
         }
     }

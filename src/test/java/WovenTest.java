@@ -4,6 +4,8 @@ import java.util.Random;
 public final class WovenTest {
     private static final int RUNS = 4000;
     private static final int CALLS = 512;
+    /** So many calls are made at most between two looks at how many there were. */
+    private static final int CALLS_OF_A_STEP = 20;
     private static final int[] ODD_INTS = {
         -1, -2, 4, 8, 16, 17, 63, 64, 255, 256, 257, Integer.MIN_VALUE, Integer.MAX_VALUE
     };
@@ -39,7 +41,7 @@ public final class WovenTest {
     }
 
     private void run() {
-        while (calls < CALLS && Check.allRight()) {
+        while (calls + CALLS_OF_A_STEP <= CALLS && Check.allRight()) {
             switch (random.nextInt(12)) {
                 case 0, 1, 2, 3 -> writeOne();
                 case 4 -> put(random.nextInt(places), random.nextInt(5));
