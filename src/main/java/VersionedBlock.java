@@ -238,7 +238,7 @@ public final class VersionedBlock {
                 return FULL;
             }
             operations[length] = operation;
-            firsts[length] = registerOf(a);
+            firsts[length] = a;
             seconds[length] = b;
             length++;
             known = false;
@@ -352,8 +352,8 @@ public final class VersionedBlock {
         }
 
         private void perform(Transaction mine, int at, long[] places) {
-            int a = mine.firstAt(at);
             long second = mine.secondAt(at);
+            int a = registerOf(mine.firstAt(at));
             int b = registerOf(second);
             switch (mine.operationAt(at)) {
                 case SET:

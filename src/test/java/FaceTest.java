@@ -4,6 +4,8 @@ import java.lang.reflect.Method;
 import java.lang.reflect.Modifier;
 import java.nio.file.Files;
 import java.nio.file.Path;
+import java.util.ArrayList;
+import java.util.List;
 import java.util.Set;
 import java.util.TreeSet;
 import java.util.regex.Matcher;
@@ -28,7 +30,7 @@ public final class FaceTest {
             "public static final int VersionedBlock.NO",
             "public static final int VersionedBlock.FULL");
     private static final Pattern FORBIDDEN = Pattern.compile(
-            "\\b(throw|throws|try|catch|synchronized|assert|package|Exact|Random|Thread|System\\.out)\\b"
+            "\\b(throw|throws|try|catch|synchronized|assert|package|\\w+Exact|Random|Thread|System\\.out)\\b"
             + "|->|::|\\bnew \\w+\\(\\) *\\{");
 
     public static void main(String[] args) throws IOException {
@@ -38,6 +40,8 @@ public final class FaceTest {
         Check.sentence("its methods, and no others", FaceTest::methods);
         Check.sentence("its constants, and no others", FaceTest::fields);
         Check.sentence("classes inside are static", FaceTest::insideClasses);
+        Check.sentence("at most seven parameters, some twelve classes, some twenty fields", FaceTest::staysSmall);
+        Check.sentence("static fields are final constants of numbers", FaceTest::noStaticState);
         Check.sentence("what a text search can tell of LANGUAGE.md", () -> keepsTo(text));
         Check.end();
     }
@@ -69,12 +73,9 @@ public final class FaceTest {
     private static void fields() {
         Set<String> open = new TreeSet<>();
         for (Field field : VersionedBlock.class.getDeclaredFields()) {
-            int modifiers = field.getModifiers();
-            if (!Modifier.isPrivate(modifiers)) {
+            if (!Modifier.isPrivate(field.getModifiers())) {
                 open.add(field.toString());
             }
-            Check.due("static and not final: " + field,
-                    Modifier.isStatic(modifiers) && !Modifier.isFinal(modifiers), false);
         }
         Check.due("the constants are the document's: " + open, open.equals(FIELDS), true);
     }
@@ -85,6 +86,38 @@ public final class FaceTest {
             Check.due("static: " + inside, Modifier.isStatic(modifiers), true);
             Check.due("open: " + inside,
                     Modifier.isPublic(modifiers) || Modifier.isProtected(modifiers), false);
+        }
+    }
+
+    private static List<Class<?>> allClasses() {
+        List<Class<?>> all = new ArrayList<>(List.of(VersionedBlock.class.getDeclaredClasses()));
+        all.add(VersionedBlock.class);
+        return all;
+    }
+
+    private static void staysSmall() {
+        Check.due("at most twelve classes", allClasses().size() <= 12, true);
+        for (Class<?> one : allClasses()) {
+            int fields = 0;
+            for (Field field : one.getDeclaredFields()) {
+                fields += Modifier.isStatic(field.getModifiers()) ? 0 : 1;
+            }
+            Check.due("at most twenty fields: " + one, fields <= 20, true);
+            for (Method method : one.getDeclaredMethods()) {
+                Check.due("at most seven parameters: " + method, method.getParameterCount() <= 7, true);
+            }
+        }
+    }
+
+    private static void noStaticState() {
+        for (Class<?> one : allClasses()) {
+            for (Field field : one.getDeclaredFields()) {
+                int modifiers = field.getModifiers();
+                if (Modifier.isStatic(modifiers)) {
+                    Check.due("a final number: " + field,
+                            Modifier.isFinal(modifiers) && field.getType().isPrimitive(), true);
+                }
+            }
         }
     }
 
